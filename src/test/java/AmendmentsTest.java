@@ -122,6 +122,7 @@ public final class AmendmentsTest {
         Checks.outOfBounds(o, "8: -1", () -> o.withdraw(-1));
         Checks.badState(o, "8: again", () -> o.withdraw(0));
         Checks.badState(o, "8: a moot one", () -> o.withdraw(4));
+        Checks.due("8: not those that were moot before", o.withdraw(1), 1);
     }
 
     private static void factsOfAmendments() {

@@ -29,7 +29,7 @@ public final class LanguageTest {
             boolean isNew = code.startsWith("new ", m.start() - 4);
             found += isNew ? 0 : 1;
         }
-        Checks.due("rule 7: uses of an index outside at(), put() and copy()", found - 4, 0);
+        Checks.due("rule 7: uses of an index, all in at(), put() and copy()", found, 4);
     }
 
     private static void methodsAreShort(String code) {

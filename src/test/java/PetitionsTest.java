@@ -42,6 +42,14 @@ public final class PetitionsTest {
         Checks.outOfBounds(o, "20: -1", () -> o.tied(-1));
     }
 
+    private static void closesAllTheWayUp() {
+        AgendumOffice o = Samples.deep();
+        o.petition(3, 8);
+        Samples.pass(o, o.lay(0, 0, 0));
+        Checks.due("20: its clause, and the three above it, were struck at once", o.tied(0), -1);
+        Checks.due("5: closed at once", o.many(11), 1);
+    }
+
     private static void means() {
         Checks.due("21: without any", new AgendumOffice().meanBelow(), 0.0);
         AgendumOffice o = Samples.deep();
@@ -61,6 +69,7 @@ public final class PetitionsTest {
     public static void main(String[] args) {
         petitions();
         ties();
+        closesAllTheWayUp();
         means();
         Checks.end("PetitionsTest");
     }

@@ -46,7 +46,10 @@ public final class WouldBeTest {
         Checks.due("23: it cannot be done", o.wouldMoot(1), 0);
         Checks.due("23: it has passed", o.wouldMoot(0), 0);
         Checks.due("23: nothing is changed", o.many(6), 0);
-        Checks.outOfBounds(o, "23: no amendment", () -> o.wouldMoot(5));
+        o.withdraw(3);
+        o.lay(0, 2, 0);
+        Checks.due("23: not those that were moot before", o.many(6) * 10 + o.wouldMoot(5), 12);
+        Checks.outOfBounds(o, "23: no amendment", () -> o.wouldMoot(6));
         Checks.outOfBounds(o, "23: -1", () -> o.wouldMoot(-1));
     }
 
@@ -120,6 +123,23 @@ public final class WouldBeTest {
         Checks.outOfBounds(twenty, "26: 20", () -> twenty.calledAt(20));
     }
 
+    /** In what order the new ones come shows in what is called next. */
+    private static void trainsThatWouldBe() {
+        AgendumOffice o = new AgendumOffice();
+        o.clause(-1, 0);
+        o.clause(0, 1);
+        Samples.pass(o, o.lay(3, 1, 2));
+        Samples.pass(o, o.lay(4, 2, 3));
+        int behind = o.lay(3, 1, 4);
+        int inside = o.lay(2, 3, 5);
+        int move = o.lay(1, 2, 0);
+        Samples.ayes(o);
+        Checks.due("26: behind", o.calledAt(0), behind);
+        Checks.due("26: the move", o.calledAt(1), move);
+        Checks.due("26: in what moved", o.calledAt(2), inside);
+        Checks.due("24: with the new one", o.inTheEnd(), 5);
+    }
+
     /** The checksum, put together from the other answers. */
     private static long digestOf(AgendumOffice o, int petitions) {
         long d = 5754;
@@ -173,6 +193,7 @@ public final class WouldBeTest {
         ends();
         otherwise();
         calledAt();
+        trainsThatWouldBe();
         digests();
         Checks.end("WouldBeTest");
     }
