@@ -67,11 +67,8 @@ public final class AmendmentsTest {
         for (int i = 0; i < 20; i++) {
             Checks.due("6: replace with 40", full.lay(2, i, 0), i);
         }
-        Checks.badState(full, "6: there were 20", () -> full.lay(2, 0, 0));
-        Checks.badState(full, "7: there were 20", () -> full.change(0, 0));
         full.withdraw(0);
         Checks.badState(full, "6: there were 20 ever", () -> full.lay(2, 0, 0));
-        Checks.outOfBounds(full, "6: no clause ahead of 20", () -> full.lay(2, 40, 0));
     }
 
     private static void changes() {

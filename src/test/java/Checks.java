@@ -20,6 +20,10 @@ final class Checks {
         tell(got == want, what + " answered " + got + ", due is " + want);
     }
 
+    static void due(String what, String got, String want) {
+        tell(got.equals(want), what + " " + got + ", due is " + want);
+    }
+
     /** The call throws just that exception, and the office is as it was. */
     static void refuses(AgendumOffice office, Class<?> exception, String what, Callable<?> call) {
         String before = picture(office);

@@ -40,4 +40,39 @@ final class Samples {
             }
         }
     }
+
+    /** Four CLAUSES in a row, and five AMENDMENTS TO them of the KIND 2: how each one stands is its number. */
+    static AgendumOffice settled() {
+        AgendumOffice o = row(4);
+        o.lay(2, 3, 100);
+        o.lay(2, 0, 101);
+        o.lay(2, 1, 102);
+        o.lay(2, 0, 103);
+        o.lay(2, 2, 104);
+        o.withdraw(4);
+        o.party(10);
+        o.vote(0, 1, 1);
+        o.sit(100);
+        o.call();
+        o.call();
+        for (int a = 0; a < 5; a++) {
+            Checks.due("how " + a + " stands", o.ofAmendment(a, 3), a);
+        }
+        return o;
+    }
+
+    /** As much as there can be of all: 40 CLAUSES, 20 AMENDMENTS, 5 PARTIES, 12 PETITIONS. */
+    static AgendumOffice full() {
+        AgendumOffice o = row(40);
+        for (int a = 0; a < 20; a++) {
+            o.lay(2, a, 999);
+        }
+        for (int p = 0; p < 5; p++) {
+            o.party(99);
+        }
+        for (int p = 0; p < 12; p++) {
+            o.petition(39, 9999);
+        }
+        return o;
+    }
 }
