@@ -191,6 +191,30 @@ public final class AmendmentEdgesTest {
         Checks.due("6: the AIM is the one behind all BELOW it", deepAndTwo().lay(1, 0, 4), 0);
     }
 
+    /** CLAUSE 0, BELOW it 1 and 2, BELOW 2 also 3: none would be too HIGH behind one of these. */
+    private static AgendumOffice low() {
+        AgendumOffice o = new AgendumOffice();
+        for (int parent : new int[] {-1, 0, 0, 2}) {
+            o.clause(parent, 0);
+        }
+        return o;
+    }
+
+    private static void theAimIsNotBelowThoughItIsLow() {
+        Refusals.badState("6: the AIM is the first BELOW it", AmendmentEdgesTest::low, o -> o.lay(1, 0, 1));
+        Refusals.badState("6: the AIM is the last one of the BILL, BELOW it", AmendmentEdgesTest::lowAndAlone,
+            o -> o.lay(1, 1, 2));
+        Refusals.badState("6: the AIM is the only one BELOW it", AmendmentEdgesTest::low, o -> o.lay(1, 2, 3));
+        Checks.due("6: the AIM has the same PARENT", low().lay(1, 1, 2), 0);
+        Checks.due("6: the AIM is BELOW another one", low().lay(1, 1, 3), 0);
+    }
+
+    private static AgendumOffice lowAndAlone() {
+        AgendumOffice o = Samples.row(2);
+        o.clause(1, 0);
+        return o;
+    }
+
     private static AgendumOffice twentyOnDeep() {
         AgendumOffice o = Samples.deep();
         for (int a = 0; a < 20; a++) {
@@ -297,6 +321,16 @@ public final class AmendmentEdgesTest {
         Checks.due("10: none is LAID", o.next(), -1);
     }
 
+    private static void thoseMootBeforeAreNotCounted() {
+        AgendumOffice o = Samples.settled();
+        Checks.due("5: one PASSED, one LOST, one MOOT", o.many(4) + o.many(5) * 10 + o.many(6) * 100, 111);
+        Checks.due("8: no others", o.withdraw(0), 0);
+        AgendumOffice two = threeWithText();
+        two.change(0, 1);
+        two.withdraw(0);
+        Checks.due("8: one is MOOT by that, one was before", two.withdraw(2) * 10 + two.many(6), 12);
+    }
+
     private static void aChangeIsWithdrawnAlone() {
         AgendumOffice o = threeWithText();
         o.change(2, 7);
@@ -334,6 +368,21 @@ public final class AmendmentEdgesTest {
         Refusals.outOfBounds("9: AMENDMENT 20", Samples::full, o -> o.ofAmendment(20, 0));
     }
 
+    private static void toWhichTheyAre() {
+        AgendumOffice o = Samples.row(40);
+        for (int a = 0; a < 19; a++) {
+            o.lay(2, 39 - a, 5);
+        }
+        o.change(18, 6);
+        Checks.due("9: TO the last CLAUSE", o.ofAmendment(0, 1), 39);
+        Checks.due("9: TO another one", o.ofAmendment(18, 1), 21);
+        Checks.due("9: the last AMENDMENT is TO the one ahead of it", o.ofAmendment(19, 1), 18);
+        Checks.due("9: its KIND", o.ofAmendment(19, 0), 5);
+        o.withdraw(18);
+        Checks.due("9: as it is MOOT, too", o.ofAmendment(19, 1), 18);
+        Checks.due("9: by that", o.ofAmendment(19, 4), 18);
+    }
+
     private static void byWhichOneIsMoot() {
         AgendumOffice o = Samples.settled();
         int[] due = {-1, -1, -1, 1, -1};
@@ -368,6 +417,24 @@ public final class AmendmentEdgesTest {
             Checks.due("10: behind " + k + " others", o.next(), due[k]);
             o.withdraw(due[k]);
         }
+    }
+
+    private static void nextIsByNumberNotByClause() {
+        AgendumOffice o = Samples.row(3);
+        o.clause(0, 3);
+        o.lay(2, 1, 5);
+        o.lay(2, 3, 5);
+        Checks.due("10: CLAUSE 3 is READ ahead of 1", o.next(), 1);
+        Samples.pass(o, 1);
+        o.lay(2, 2, 5);
+        Samples.pass(o, o.lay(1, 0, 2));
+        Checks.reads(o, "10: by a MOVE", 1, 2, 0, 3);
+        o.lay(2, 0, 5);
+        Checks.due("10: CLAUSE 1 is READ ahead of 0", o.next(), 0);
+        o.withdraw(0);
+        Checks.due("10: CLAUSE 2 is READ ahead of 0", o.next(), 2);
+        o.withdraw(2);
+        Checks.due("10: the last", o.next(), 4);
     }
 
     private static void changesOfTheNextOneGoFirst() {
@@ -431,6 +498,7 @@ public final class AmendmentEdgesTest {
         aMovedOneIsHighAtMost3();
         theHighestBelowCounts();
         theAimIsNotTheClauseNorBelowIt();
+        theAimIsNotBelowThoughItIsLow();
         layNamesItsExceptionsInOrder();
         changesAreToTheKinds2To4();
         changesAreToLaidOnes();
@@ -438,12 +506,15 @@ public final class AmendmentEdgesTest {
         changeNamesItsExceptionsInOrder();
         withdrawRefuses();
         as19AreMootByThat();
+        thoseMootBeforeAreNotCounted();
         aChangeIsWithdrawnAlone();
         aChangeIsToAnAmendment();
         ofAmendmentRefuses();
+        toWhichTheyAre();
         byWhichOneIsMoot();
         nextIsNoneIfNoneIsLaid();
         nextIsByNumberThenKindThenAmendment();
+        nextIsByNumberNotByClause();
         changesOfTheNextOneGoFirst();
         whatIsNotLaidCannotBeDone();
         tooHighByThen();

@@ -197,6 +197,28 @@ public final class BillEdgesTest {
         Checks.due("3: BELOW one, as all are STRUCK", o.ofClause(0, 5), 0);
     }
 
+    private static void oneInTheBillIsNotStruck() {
+        AgendumOffice o = Samples.row(2);
+        Checks.due("3: the first, in the BILL", o.ofClause(0, 4), 0);
+        Checks.due("3: the last, in the BILL", o.ofClause(1, 4), 0);
+        Samples.pass(o, o.lay(0, 0, 0));
+        Checks.due("3: STRUCK", o.ofClause(0, 4), 1);
+        Checks.due("3: the other one", o.ofClause(1, 4), 0);
+    }
+
+    private static void aNewOneIsTheLastWithItsParent() {
+        AgendumOffice o = Samples.row(2);
+        o.clause(0, 2);
+        o.clause(2, 3);
+        Checks.reads(o, "2: within the first, not the last of all", 0, 2, 3, 1);
+        o.clause(0, 4);
+        Checks.reads(o, "2: behind what is BELOW the one ahead", 0, 2, 3, 4, 1);
+        o.clause(-1, 5);
+        Checks.reads(o, "2: the last of those with the PARENT NONE", 0, 2, 3, 4, 1, 5);
+        o.clause(5, 6);
+        Checks.reads(o, "2: within the last", 0, 2, 3, 4, 1, 5, 6);
+    }
+
     private static void aStruckOneStaysAsItWas() {
         AgendumOffice o = Samples.deep();
         o.clause(-1, 4);
@@ -314,6 +336,8 @@ public final class BillEdgesTest {
         ofClauseRefuses();
         numbersAre0To39();
         manyCanBeBelow();
+        oneInTheBillIsNotStruck();
+        aNewOneIsTheLastWithItsParent();
         aStruckOneStaysAsItWas();
         byWhichItCame();
         aStruckNewOneKeepsItsAmendment();

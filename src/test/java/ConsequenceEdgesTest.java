@@ -104,6 +104,22 @@ public final class ConsequenceEdgesTest {
         Checks.reads(o, "directly behind the AIM", 0, 1, 3, 4, 2);
     }
 
+    private static void aMoveLeavesThoseWithTheSameAim() {
+        AgendumOffice o = Samples.row(4);
+        o.lay(1, 0, 3);
+        o.lay(1, 1, 3);
+        o.lay(1, 2, 3);
+        o.lay(1, 3, 0);
+        Checks.due("23: none is TO the same CLAUSE", o.wouldMoot(0), 0);
+        Samples.pass(o, 0);
+        stands("5: the same AIM, the other way round", o, 1, -1, 0, -1, 0, -1, 0, -1);
+        Samples.pass(o, 1);
+        Samples.pass(o, 2);
+        Checks.reads(o, "each directly behind the AIM", 3, 2, 1, 0);
+        Samples.pass(o, 3);
+        Checks.reads(o, "behind one that moved", 2, 1, 0, 3);
+    }
+
     private static void aMoveGoesBehindAllBelowTheAim() {
         AgendumOffice o = tree();
         Samples.pass(o, o.lay(1, 4, 1));
@@ -173,6 +189,33 @@ public final class ConsequenceEdgesTest {
             Samples.pass(o, 0);
             stands("5: with 3 and 4 nothing", o, 1, -1, 0, -1, 0, -1, 4, -1);
         }
+    }
+
+    /** CLAUSE 1 is another thing than AMENDMENT 1. */
+    private static void whatIsToAClauseChangesNoAmendment() {
+        for (int kind = 1; kind <= 4; kind++) {
+            AgendumOffice o = tree();
+            o.lay(2, 4, 51);
+            o.lay(2, 4, 52);
+            Samples.pass(o, o.lay(kind, 1, 2));
+            Checks.due("2: the TEXT of AMENDMENT 0, after the KIND " + kind, o.ofAmendment(0, 2), 51);
+            Checks.due("2: the TEXT of AMENDMENT 1, after the KIND " + kind, o.ofAmendment(1, 2), 52);
+            stands("5: those TO another CLAUSE", o, 0, -1, 0, -1, 1, -1);
+        }
+    }
+
+    private static void aChangeIsToNoClause() {
+        AgendumOffice o = tree();
+        o.lay(3, 0, 51);
+        Samples.pass(o, o.change(0, 52));
+        for (int clause = 0; clause < 5; clause++) {
+            Checks.due("2: the TEXT of CLAUSE " + clause, o.ofClause(clause, 0), 100);
+        }
+        Checks.due("9: KIND 5", o.ofAmendment(1, 0), 5);
+        Checks.due("9: the AMENDMENT TO which it is", o.ofAmendment(1, 1), 0);
+        Checks.due("9: no CLAUSE came by it", o.ofAmendment(1, 5), -1);
+        Samples.pass(o, 0);
+        Checks.due("2: the new one has the CHANGED TEXT", o.ofClause(5, 0), 52);
     }
 
     private static void aChangeMootsNothing() {
@@ -280,6 +323,43 @@ public final class ConsequenceEdgesTest {
         Checks.reads(o, "as far as the one of another CLAUSE", 0, 3, 5, 2, 4, 1);
     }
 
+    /** It is asked where they are now, not by what way they came there. */
+    private static void whatMovedAwayAndBackIsOfTheTrain() {
+        AgendumOffice o = Samples.row(2);
+        Samples.pass(o, o.lay(3, 0, 5));
+        Samples.pass(o, o.lay(3, 0, 6));
+        Samples.pass(o, o.lay(1, 2, 3));
+        Checks.reads(o, "the other way round", 0, 3, 2, 1);
+        Samples.pass(o, o.lay(3, 0, 7));
+        Checks.reads(o, "behind both", 0, 3, 2, 4, 1);
+        Samples.pass(o, o.lay(1, 3, 1));
+        Samples.pass(o, o.lay(3, 0, 8));
+        Checks.reads(o, "one moved away", 0, 2, 4, 5, 1, 3);
+        Samples.pass(o, o.lay(1, 3, 0));
+        Samples.pass(o, o.lay(3, 0, 9));
+        Checks.reads(o, "and back", 0, 3, 2, 4, 5, 6, 1);
+        Samples.pass(o, o.lay(1, 0, 1));
+        Samples.pass(o, o.lay(3, 0, 10));
+        Checks.reads(o, "the CLAUSE itself moved away", 3, 2, 4, 5, 6, 1, 0, 7);
+    }
+
+    /** CLAUSE 0 comes to be within 1, so that a PARENT has a smaller number than what is BELOW it. */
+    private static void oneThatMovedOutBreaksTheTrain() {
+        AgendumOffice o = Samples.row(2);
+        Samples.pass(o, o.lay(4, 1, 5));
+        Samples.pass(o, o.lay(4, 0, 6));
+        Samples.pass(o, o.lay(1, 0, 2));
+        Checks.reads(o, "0 came within 1", 1, 2, 0, 3);
+        Samples.pass(o, o.lay(3, 3, 7));
+        Samples.pass(o, o.lay(1, 4, 0));
+        Checks.reads(o, "what came BEHIND 3 moved out, and directly behind", 1, 2, 0, 3, 4);
+        Checks.due("2: it has another PARENT than 3", o.ofClause(4, 1) * 10 + o.ofClause(3, 1), 10);
+        Samples.pass(o, o.lay(3, 3, 8));
+        Checks.reads(o, "directly behind 3, with its PARENT", 1, 2, 0, 3, 5, 4);
+        Checks.due("2: the same PARENT", o.ofClause(5, 1), 0);
+        Checks.due("3: BELOW that", o.ofClause(0, 5), 2);
+    }
+
     /** What would be leaves no trace in what came BEHIND what. */
     private static void whatWouldBeBreaksNoTrain() {
         AgendumOffice o = Samples.row(2);
@@ -303,11 +383,14 @@ public final class ConsequenceEdgesTest {
         aMoveWithAStruckAimIsMoot();
         changesOfWhatIsMootAreMootByThat();
         aMoveMootsMovesOfTheSameClause();
+        aMoveLeavesThoseWithTheSameAim();
         aMoveGoesBehindAllBelowTheAim();
         aReplaceMootsThoseWithAnotherText();
         oneWithTheSameTextPassesWithoutAVote();
         aReplaceByTheTextThereIsPassesToo();
         aNewOneMootsNothing();
+        whatIsToAClauseChangesNoAmendment();
+        aChangeIsToNoClause();
         aChangeMootsNothing();
         aChangedTextDecidesWhoPassesWithIt();
         whatCannotBeDoneIsMootByItself();
@@ -315,6 +398,8 @@ public final class ConsequenceEdgesTest {
         aNewOneWithinIsTheLast();
         othersBreakTheTrain();
         eachHasItsOwnTrain();
+        whatMovedAwayAndBackIsOfTheTrain();
+        oneThatMovedOutBreaksTheTrain();
         whatWouldBeBreaksNoTrain();
         Checks.end("ConsequenceEdgesTest");
     }

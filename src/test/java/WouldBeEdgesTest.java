@@ -112,6 +112,32 @@ public final class WouldBeEdgesTest {
         Checks.due("23: nor this one; what was to CHANGE it is counted", o.wouldMoot(2), 2);
     }
 
+    /** CLAUSE 3 is within 0, 1 and 2; of five AMENDMENTS TO it one is a MOVE, and 4 has it as AIM. */
+    private static AgendumOffice toBeStruck() {
+        AgendumOffice o = Samples.deep();
+        o.clause(-1, 20);
+        o.lay(2, 3, 5);
+        o.change(0, 6);
+        o.lay(1, 3, 4);
+        o.lay(1, 4, 3);
+        o.lay(0, 3, 0);
+        o.lay(3, 4, 3);
+        o.lay(0, 0, 0);
+        return o;
+    }
+
+    private static void aStrikeWouldMootAllBelow() {
+        AgendumOffice o = toBeStruck();
+        Checks.due("23: by the STRIKE of 0", o.wouldMoot(6), 5);
+        Checks.due("23: by the STRIKE of 3", o.wouldMoot(4), 4);
+        Checks.due("23: by a MOVE, those of the KIND 1 TO it alone", o.wouldMoot(2), 0);
+        Checks.due("23: by what is BEHIND", o.wouldMoot(5), 0);
+        Checks.due("27: with all these", o.digest(), Digests.of(o, 0));
+        Samples.pass(o, 6);
+        Checks.due("5: MOOT, as it would be", o.many(6), 5);
+        Checks.due("23: those MOOT before are not counted", o.wouldMoot(5), 0);
+    }
+
     private static void as19WouldBeMoot() {
         AgendumOffice o = Samples.row(1);
         for (int a = 0; a < 20; a++) {
@@ -337,6 +363,7 @@ public final class WouldBeEdgesTest {
         whatCannotBeDoneWouldPassButMootsNothing();
         oneThatIsNotLaidMootsNothing();
         oneNeedNotBeNextToBePutNow();
+        aStrikeWouldMootAllBelow();
         as19WouldBeMoot();
         theEndOfTheLeastAndTheMost();
         whatWouldBeNeedsNoSitting();
