@@ -1,7 +1,9 @@
-/** Promises 1 to 27: many runs of up to 512 calls, each answer held against the Model's. */
+/** Promises 1 to 27: many runs of at most 512 calls, each answer held against the Model's. */
 public final class ModelTest {
     private static final int RUNS = 1000;
     private static final int CALLS = 512;
+    private static final int DENSE_RUNS = 4000;
+    private static final int DENSE_CALLS = 70;
 
     private static long seed;
 
@@ -108,6 +110,17 @@ public final class ModelTest {
         }
     }
 
+    /** The same call on both; tells what is not as due. */
+    private static boolean isAsDue(String when, AgendumOffice office, Model model, int call, int... a) {
+        Object want = answer(model, call, a[0], a[1], a[2]);
+        Object got = answer(office, call, a[0], a[1], a[2]);
+        if (!want.equals(got)) {
+            System.out.println(when + ": kind " + call + " (" + a[0] + ", " + a[1] + ", " + a[2] + ") answered "
+                + got + ", due is " + want);
+        }
+        return want.equals(got);
+    }
+
     private static boolean runIsAsDue(int run) {
         seed = run;
         pick(2);
@@ -118,20 +131,60 @@ public final class ModelTest {
         for (int i = 0; i < CALLS; i++) {
             int call = i == CALLS - 1 ? 27 : laterKind(kindOfCall(i, warmUp), model, eager);
             int[] a = arguments(call, model);
-            Object want = answer(model, call, a[0], a[1], a[2]);
-            Object got = answer(office, call, a[0], a[1], a[2]);
-            if (!want.equals(got)) {
-                System.out.println("run " + run + ", call " + i + ": kind " + call + " (" + a[0] + ", " + a[1]
-                    + ", " + a[2] + ") answered " + got + ", due is " + want);
+            if (!isAsDue("run " + run + ", call " + i, office, model, call, a)) {
                 return false;
             }
         }
         return true;
     }
 
+    /** A call of a dense run: there are few CLAUSES, and most votes are AYE, so that much is DONE, and would be. */
+    private static int[] denseCall(Model m) {
+        int clause = pick(m.nodes.size());
+        int amendments = m.amendments.size();
+        int kind = new int[] {0, 1, 1, 2, 3, 3, 3, 4}[pick(8)];
+        switch (pick(9)) {
+            case 0: case 1: case 2: case 3:
+                return new int[] {4, kind, clause, kind == 1 ? pick(m.nodes.size()) : pick(3)};
+            case 4:
+                return new int[] {5, pick(amendments + 1), pick(3), 0};
+            case 5:
+                return new int[] {12, pick(2), pick(amendments + 1), 1 - pick(7) / 6 * 2};
+            case 6: case 7:
+                return new int[] {16, 0, 0, 0};
+            default:
+                return pick(3) == 0 ? new int[] {6, pick(amendments + 1), 0, 0} : new int[] {18, clause, 1, 0};
+        }
+    }
+
+    private static boolean denseRunIsAsDue(int run) {
+        seed = run;
+        AgendumOffice office = new AgendumOffice();
+        Model model = new Model();
+        boolean asDue = isAsDue("dense " + run, office, model, 10, 50, 0, 0)
+            && isAsDue("dense " + run, office, model, 10, 7, 0, 0)
+            && isAsDue("dense " + run, office, model, 14, 300, 0, 0);
+        int clauses = 1 + pick(5);
+        for (int c = 0; c < clauses; c++) {
+            asDue = asDue && isAsDue("dense " + run, office, model, 0, pick(c + 1) - 1, 0, 0);
+        }
+        for (int i = 0; i < DENSE_CALLS && asDue; i++) {
+            int[] a = denseCall(model);
+            asDue = isAsDue("dense " + run + ", " + i, office, model, a[0], a[1], a[2], a[3]);
+            if (asDue && a[0] == 4 && pick(5) > 0) {
+                asDue = isAsDue("dense " + run + ", " + i, office, model, 12, 0, model.amendments.size() - 1, 1);
+            }
+            asDue = asDue && isAsDue("dense " + run + ", " + i, office, model, 27, 0, 0, 0);
+        }
+        return asDue;
+    }
+
     public static void main(String[] args) {
         for (int run = 1; run <= RUNS; run++) {
             Checks.due("run " + run, runIsAsDue(run), true);
+        }
+        for (int run = 1; run <= DENSE_RUNS; run++) {
+            Checks.due("dense run " + run, denseRunIsAsDue(run), true);
         }
         Checks.end("ModelTest");
     }

@@ -191,6 +191,20 @@ public final class WouldBeEdgesTest {
         Checks.due("5: none are taken", o.many(10), 0);
     }
 
+    /** A new one that would come BEHIND 0 and the one that came so is not BELOW that one, and not STRUCK with it. */
+    private static void whatWouldComeBehindHasTheSameParent() {
+        AgendumOffice o = Samples.row(1);
+        Samples.pass(o, o.lay(3, 0, 5));
+        o.lay(3, 0, 6);
+        o.lay(0, 1, 0);
+        Samples.ayes(o);
+        Checks.due("24: 0 and the new one", o.inTheEnd(), 2);
+        o.call();
+        Checks.reads(o, "the new one is the last", 0, 1, 2);
+        o.call();
+        Checks.reads(o, "as it would be", 0, 2);
+    }
+
     private static void whatIsStruckInTheEndStaysWritten() {
         AgendumOffice o = Samples.row(39);
         o.party(1);
@@ -367,6 +381,7 @@ public final class WouldBeEdgesTest {
         as19WouldBeMoot();
         theEndOfTheLeastAndTheMost();
         whatWouldBeNeedsNoSitting();
+        whatWouldComeBehindHasTheSameParent();
         whatIsStruckInTheEndStaysWritten();
         otherwiseCountsWhatIsLaid();
         otherwiseComparesHowEachStands();
