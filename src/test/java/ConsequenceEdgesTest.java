@@ -265,6 +265,57 @@ public final class ConsequenceEdgesTest {
         stands("5: MOOT by itself", o, 1, -1, 3, 1, 1, -1, 0, -1, 4, -1);
     }
 
+    /** CLAUSE 3, HIGH 1, is STRUCK from the end of the BILL: 2 can go where it could not with 3 BELOW it. */
+    private static void whatIsStruckHindersNoMove() {
+        AgendumOffice o = new AgendumOffice();
+        for (int parent : new int[] {-1, 0, -1, 2}) {
+            o.clause(parent, 100);
+        }
+        Samples.pass(o, o.lay(4, 1, 5));
+        Samples.pass(o, o.lay(4, 4, 6));
+        Checks.reads(o, "5 is HIGH 3", 0, 1, 4, 5, 2, 3);
+        Checks.badState(o, "6: 3 would be HIGH 4", () -> o.lay(1, 2, 5));
+        Samples.pass(o, o.lay(0, 3, 0));
+        Samples.pass(o, o.lay(1, 2, 5));
+        Checks.reads(o, "alone, behind one that is HIGH 3", 0, 1, 4, 5, 2);
+        Checks.due("3: HIGH 3", o.ofClause(2, 3), 3);
+        Checks.due("3: the STRUCK one as it was", o.ofClause(3, 3), 1);
+    }
+
+    private static void anAimThatCameBelowIsNoneAnyMore() {
+        AgendumOffice o = Samples.row(2);
+        Samples.pass(o, o.lay(4, 1, 5));
+        int move = o.lay(1, 1, 0);
+        int below = o.lay(1, 0, 2);
+        Checks.due("26: the MOVE would be PUT, though it could not be DONE", o.calledAt(1), move);
+        Samples.pass(o, below);
+        Checks.reads(o, "0 is BELOW 1", 1, 2, 0);
+        Checks.due("3: BELOW 1", o.ofClause(1, 5), 2);
+        Checks.due("11: its AIM is BELOW it", o.canBeDone(move), false);
+        Checks.due("23: it cannot be DONE", o.wouldMoot(move), 0);
+        o.vote(0, move, 1);
+        Checks.due("17: it cannot be DONE any more", o.call(), 3);
+        stands("5: MOOT by itself", o, 1, -1, 3, move, 1, -1);
+        Checks.reads(o, "nothing is DONE", 1, 2, 0);
+    }
+
+    private static void whatCouldNotBeDoneCanBeAgain() {
+        AgendumOffice o = Samples.deep();
+        for (int parent : new int[] {-1, 4, -1, 6}) {
+            o.clause(parent, 100);
+        }
+        int move = o.lay(1, 6, 5);
+        Samples.pass(o, o.lay(1, 4, 2));
+        Checks.due("3: the AIM is HIGH 3", o.ofClause(5, 3), 3);
+        Checks.due("11: with one BELOW it", o.canBeDone(move), false);
+        Samples.pass(o, o.lay(1, 4, 0));
+        Checks.due("3: the AIM is HIGH 1", o.ofClause(5, 3), 1);
+        Checks.due("11: it can be DONE again", o.canBeDone(move), true);
+        Samples.pass(o, move);
+        Checks.reads(o, "behind its AIM", 0, 1, 2, 3, 4, 5, 6, 7);
+        Checks.due("2: the same PARENT as that", o.ofClause(6, 1), 4);
+    }
+
     private static void aNewOneBehindGoesBehindWhatIsBelow() {
         AgendumOffice o = tree();
         Samples.pass(o, o.lay(3, 1, 5));
@@ -394,6 +445,9 @@ public final class ConsequenceEdgesTest {
         aChangeMootsNothing();
         aChangedTextDecidesWhoPassesWithIt();
         whatCannotBeDoneIsMootByItself();
+        whatIsStruckHindersNoMove();
+        anAimThatCameBelowIsNoneAnyMore();
+        whatCouldNotBeDoneCanBeAgain();
         aNewOneBehindGoesBehindWhatIsBelow();
         aNewOneWithinIsTheLast();
         othersBreakTheTrain();
